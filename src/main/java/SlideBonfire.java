@@ -29,7 +29,6 @@ public final class SlideBonfire {
     private static final long FIRST_HASH = 4447L;
     private static final int ONES_EXPONENT = 1023;
     private static final int FRACTION_BITS = 52;
-    private static final double FRACTIONS_OF_ONE = 4503599627370496.0;
 
     private final Bonfire now;
     private final Bonfire trial;
@@ -528,7 +527,7 @@ public final class SlideBonfire {
             scaled = scaled * 2.0;
             exponent--;
         }
-        long fraction = (long) ((scaled - 1.0) * FRACTIONS_OF_ONE);
+        long fraction = (long) ((scaled - 1.0) * (double) (1L << FRACTION_BITS));
         return ((long) exponent << FRACTION_BITS) + fraction;
     }
 

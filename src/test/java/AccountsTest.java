@@ -32,6 +32,17 @@ public final class AccountsTest {
         check.sameShare("63 two of five", x.hitShare(), 0.4);
     }
 
+    private static void waitedBehindAnotherLoading() {
+        SlideBonfire x = Shows.with(Shows.slide(10, 4, 0), Shows.slide(10, 3, 0));
+        x.ask(0);
+        x.insert(0, 1);
+        x.goOn();
+        x.tick(2);
+        check.same("62 while another one is being loaded, too", x.waited(), 2);
+        x.tick(10);
+        check.same("62 until it is shown", x.waited(), 7);
+    }
+
     private static long hash(long... values) {
         long hash = 4447;
         for (long value : values) {
@@ -136,6 +147,7 @@ public final class AccountsTest {
 
     public static void main(String[] args) {
         accounts();
+        waitedBehindAnotherLoading();
         digestOfNew();
         digestOfMany();
         bitsOfShares();

@@ -79,6 +79,17 @@ public final class LanguageTest {
         }
     }
 
+    private static void staticFields(Class<?> type) {
+        Set<Class<?>> allowed = Set.of(int.class, long.class, boolean.class, char.class, String.class,
+            int[].class, long[].class, char[].class, byte[].class);
+        for (Field f : type.getDeclaredFields()) {
+            if (Modifier.isStatic(f.getModifiers())) {
+                check.yes("rule 5: final " + f.getName(), Modifier.isFinal(f.getModifiers()));
+                check.yes("rule 5: type of " + f.getName(), allowed.contains(f.getType()));
+            }
+        }
+    }
+
     private static void words() throws IOException {
         String source = read("bonfire.source").replaceAll("(?s)/\\*.*?\\*/", "").replaceAll("//.*", "");
         String[] strange = {"\\bimport\\b", "\\bpackage\\b", "\\btry\\b", "\\bcatch\\b", "\\bfinally\\b", "\\bassert\\b",
@@ -97,6 +108,10 @@ public final class LanguageTest {
     public static void main(String[] args) throws IOException {
         face();
         sizes();
+        staticFields(SlideBonfire.class);
+        for (Class<?> inner : SlideBonfire.class.getDeclaredClasses()) {
+            staticFields(inner);
+        }
         words();
         check.end();
     }

@@ -1,32 +1,15 @@
-import java.lang.reflect.InvocationTargetException;
 import java.lang.reflect.Method;
 import java.util.Arrays;
-import java.util.Comparator;
-import java.util.List;
 
 /** Runs the same calls on a SlideBonfire and on the model, and looks at all that both tell behind each of them. */
 public final class ModelTest {
     private static final int RUNS = 240;
     private static final int CALLS = 500;
-    private static final List<String> ACTIONS = List.of("addSlide", "insert", "takeOut", "goOn", "ask", "burn", "tick",
-        "changeMemory", "changeAhead", "changeOrder", "changeGlow", "changePace", "append", "clearBuffer", "follow",
-        "keep", "goBack", "undo");
-
     private static long seed = 1;
 
     private static int dice(int sides) {
         seed = seed * 6364136223846793005L + 1442695040888963407L;
         return (int) ((seed >>> 33) % sides);
-    }
-
-    private static String answer(Object target, Method method, Object... args) {
-        try {
-            return String.valueOf(method.invoke(target, args));
-        } catch (InvocationTargetException e) {
-            return "throws." + e.getCause().getClass().getSimpleName();
-        } catch (IllegalAccessException e) {
-            throw new IllegalStateException(e);
-        }
     }
 
     private static Method of(Class<?> type, String name) {
@@ -88,7 +71,7 @@ public final class ModelTest {
         if (choice < 4) {
             return "tick";
         }
-        return ACTIONS.get(dice(ACTIONS.size()));
+        return Answers.ACTIONS.get(dice(Answers.ACTIONS.size()));
     }
 
     /** A whole text of orders, so that follow() is not always sent off. */
@@ -106,25 +89,22 @@ public final class ModelTest {
         return text.toString();
     }
 
-    private static void compareAll(Check check, String where, SlideBonfire bonfire, Model model, List<Method> queries) {
-        for (Method query : queries) {
+    private static void compareAll(Check check, String where, SlideBonfire bonfire, Model model) {
+        for (Method query : Answers.QUERIES) {
             Method same = of(Model.class, query.getName());
             if (query.getParameterCount() == 0) {
-                check.sameText(where + query.getName(), answer(bonfire, query), answer(model, same));
+                check.sameText(where + query.getName(), Answers.answer(bonfire, query), Answers.answer(model, same));
                 continue;
             }
             for (int i = -1; i <= 24; i++) {
                 String name = where + query.getName() + "(" + i + ")";
-                check.sameText(name, answer(bonfire, query, i), answer(model, same, i));
+                check.sameText(name, Answers.answer(bonfire, query, i), Answers.answer(model, same, i));
             }
         }
     }
 
     public static void main(String[] args) {
         Check check = new Check();
-        Method[] queries = Arrays.stream(SlideBonfire.class.getDeclaredMethods())
-            .filter(m -> java.lang.reflect.Modifier.isPublic(m.getModifiers()) && !ACTIONS.contains(m.getName()))
-            .sorted(Comparator.comparing(Method::getName)).toArray(Method[]::new);
         for (int run = 0; run < RUNS; run++) {
             seed = run + 1;
             SlideBonfire bonfire = new SlideBonfire();
@@ -141,11 +121,11 @@ public final class ModelTest {
                 }
                 Object[] arguments = arguments(name, run, bonfire);
                 String where = "run " + run + " call " + i + " " + name + Arrays.toString(arguments) + " ";
-                check.sameText(where, answer(bonfire, of(SlideBonfire.class, name), arguments),
-                    answer(model, of(Model.class, name), arguments));
+                check.sameText(where, Answers.answer(bonfire, of(SlideBonfire.class, name), arguments),
+                    Answers.answer(model, of(Model.class, name), arguments));
                 check.same(where + "digest", bonfire.digest(), model.digest());
                 if (i % 25 == 0) {
-                    compareAll(check, where, bonfire, model, Arrays.asList(queries));
+                    compareAll(check, where, bonfire, model);
                 }
             }
         }

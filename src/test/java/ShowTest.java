@@ -45,14 +45,14 @@ public final class ShowTest {
         x.ask(0);
         x.ask(1);
         x.ask(2);
-        Shows.programme(x, 1);
+        Shows.programme(x, 2);
         x.goOn();
         check.same("5 no longer asked for", x.asked(), 1);
-        check.same("5 the other one is", x.askedAt(0), 2);
+        check.same("5 the other one is", x.askedAt(0), 1);
         x.tick(5);
-        check.same("5 what is waited for is loaded ahead of what was asked for", x.loading(), 1);
+        check.same("5 what is waited for is loaded ahead of what was asked for", x.loading(), 2);
         x.tick(5);
-        check.same("5 then what was asked for", x.loading(), 2);
+        check.same("5 then what was asked for", x.loading(), 1);
     }
 
     private static void fades() {
@@ -133,8 +133,10 @@ public final class ShowTest {
         check.same("7 an ember", x.glowOf(0), 5);
         check.same("7 burnt times", x.burntTimes(0), 1);
         check.same("7 burnings", x.burnings(), 1);
+        int time = x.time();
         x.undo();
         check.yes("7 undone", x.isLoaded(0));
+        check.same("7 only that", x.time(), time);
         x.changeAhead(1);
         x.burn(0);
         check.same("7 behind it loading begins, here of the same slide", x.loading(), 0);

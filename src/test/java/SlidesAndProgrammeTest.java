@@ -116,6 +116,7 @@ public final class SlidesAndProgrammeTest {
         x.tick(1);
         x.takeOut(0);
         check.same("4 what is shown stays", x.shown(), 0);
+        check.badState("4 no place of the show is left, though there are others", x::showPlace);
         check.same("4 the next one is the first one", x.nextUse(1), 1);
         x.goOn();
         check.same("4 on to the first one", x.showPlace(), 0);

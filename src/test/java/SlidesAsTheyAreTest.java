@@ -95,6 +95,22 @@ public final class SlidesAsTheyAreTest {
         check.same("31 of the same cost the lowest number", x.burnPlace(1), 0);
     }
 
+    private static void burnPlaceByAllPlaces() {
+        SlideBonfire x = Shows.ofHeavySlides(1);
+        x.addSlide(50, 1, 0);
+        x.addSlide(50, 1, 0);
+        while (x.places() < 23) {
+            x.insert(0, 0);
+        }
+        x.insert(23, 1);
+        Shows.load(x, 0, 1, 2);
+        x.changeOrder(2);
+        check.same("30 the farthest place", x.nextUse(1), 24);
+        check.same("31 not in the programme is later than that", x.burnPlace(2), 0);
+        check.same("31 then the farthest place", x.burnPlace(1), 1);
+        check.same("31 then the next one", x.burnPlace(0), 2);
+    }
+
     private static void burnPlaceOfWhatFades() {
         SlideBonfire x = Shows.with(Shows.slide(10, 1, 4), Shows.slide(10, 1, 4));
         Shows.load(x, 0, 1);
@@ -115,6 +131,7 @@ public final class SlidesAsTheyAreTest {
         embers();
         nextUse();
         burnPlace();
+        burnPlaceByAllPlaces();
         burnPlaceOfWhatFades();
         check.end();
     }

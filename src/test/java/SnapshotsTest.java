@@ -22,10 +22,11 @@ public final class SnapshotsTest {
         x.tick(7);
         x.goBack(0);
         check.same("19 the snapshot stays as it was", x.time(), 0);
+        x.tick(7);
         x.goBack(1);
         check.same("19 the other one", x.shown(), 0);
         x.undo();
-        check.same("19 undone", x.time(), 0);
+        check.same("19 undone", x.time(), 7);
         x.addSlide(3, 3, 3);
         x.keep(1);
         x.goBack(0);
@@ -107,11 +108,70 @@ public final class SnapshotsTest {
         }
     }
 
+    /** A show in which all that a state holds is other than at first; one state is saved. */
+    private static SlideBonfire ofManyThings() {
+        SlideBonfire x = Shows.with(Shows.slide(50, 2, 9), Shows.slide(49, 3, 8), Shows.slide(48, 4, 7), Shows.slide(47, 5, 6),
+            Shows.slide(46, 6, 5), Shows.slide(45, 7, 4));
+        x.changeMemory(200);
+        x.changeAhead(0);
+        x.changeOrder(1);
+        x.changeGlow(12);
+        x.changePace(40);
+        Shows.programme(x, 0, 1, 2, 3);
+        Shows.load(x, 1, 2, 3);
+        x.burn(3);
+        x.goOn();
+        x.tick(2);
+        x.goOn();
+        x.goOn();
+        x.tick(1);
+        x.goOn();
+        x.ask(4);
+        x.ask(5);
+        x.tick(1);
+        x.keep(0);
+        for (int i = 0; i < 6; i++) {
+            x.undo();
+        }
+        x.goBack(0);
+        return x;
+    }
+
+    private static void undoRestoresMany() {
+        SlideBonfire x = ofManyThings();
+        String before = Answers.of(x);
+        long digest = x.digest();
+        Shows.write(x, "t100;p5;p5;t100");
+        x.follow();
+        check.yes("20 all is other", x.digest() != digest);
+        x.undo();
+        check.sameText("20 all is as it was", Answers.of(x), before);
+        Runnable[] calls = {() -> x.tick(1), () -> x.addSlide(1, 1, 1), () -> x.insert(0, 3), () -> x.takeOut(2),
+            () -> x.changeMemory(150), () -> x.changeAhead(4), () -> x.changeOrder(2), () -> x.changeGlow(19),
+            () -> x.changePace(9), () -> x.tick(5)};
+        for (int i = 0; i < calls.length; i++) {
+            calls[i].run();
+            check.yes("20 other behind call " + i, x.digest() != digest);
+            x.undo();
+            check.same("20 digest behind call " + i, x.digest(), digest);
+            check.sameText("20 as it was behind call " + i, Answers.of(x), before);
+        }
+        x.keep(1);
+        x.tick(100);
+        x.changeOrder(0);
+        x.goBack(1);
+        x.undo();
+        x.undo();
+        x.undo();
+        check.sameText("20 three calls back", Answers.of(x), before);
+    }
+
     public static void main(String[] args) {
         slots();
         whatStays();
         undo();
         undoRestoresAll();
+        undoRestoresMany();
         check.end();
     }
 }

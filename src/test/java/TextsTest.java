@@ -97,6 +97,21 @@ public final class TextsTest {
         check.same("17 undone as one", x.digest(), before);
     }
 
+    private static void followBeginsLoading() {
+        SlideBonfire x = Shows.with(Shows.slide(10, 4, 0), Shows.slide(10, 4, 0));
+        Shows.write(x, "p0;a1");
+        x.follow();
+        check.same("17 behind p", x.loading(), 0);
+        check.same("17 a waits for it", x.askedAt(0), 1);
+        Shows.write(x, "t8;b0;t1");
+        x.follow();
+        check.same("17 behind b", x.loadLeft(), 1);
+        check.same("17 and not a tick later", x.warmLoads(), 1);
+        Shows.write(x, "n;t1;n");
+        check.same("17 n waits, then the show goes on", x.follow(), 3);
+        check.same("57 hits", x.hits(), 1);
+    }
+
     private static void followAllOrNothing(String text) {
         SlideBonfire x = Shows.with(Shows.slide(10, 2, 0), Shows.slide(10, 3, 0));
         Shows.write(x, text);
@@ -140,6 +155,7 @@ public final class TextsTest {
             followNoOrders(text);
         }
         follow();
+        followBeginsLoading();
         for (String text : new String[] {"n", "p0;n;n", "p0;n;a0", "t5;a2", "a0;a0", "b0", "a0;b0", "a0;t2;a0",
             "t1;p2", "p0;n;t2;b0", "p0;n;t2;b1"}) {
             followAllOrNothing(text);

@@ -125,6 +125,33 @@ public final class WhatWouldBeTest {
         check.same("48 the order stays", x.order(), 0);
     }
 
+    /** Slide 3 is not in the programme, but was used last; it is the dearest one. */
+    private static void missesWithOneThatIsNotUsed() {
+        SlideBonfire x = Shows.with(Shows.slide(49, 1, 0), Shows.slide(49, 1, 0), Shows.slide(49, 1, 0), Shows.slide(50, 1, 0));
+        x.changeAhead(0);
+        Shows.load(x, 0, 1, 3);
+        Shows.programme(x, 2, 0, 1);
+        check.same("54 burns 0 for 2, 1 for 0, 3 for 1", x.missesWith(0), 3);
+        check.same("54 burns 3 for 2", x.missesWith(1), 1);
+        check.same("54 burns 3 for 2, too", x.missesWith(2), 1);
+        check.same("55 of several the lowest", x.bestOrder(), 1);
+    }
+
+    /** The last tick of a loading that goes on in good time is the tenth one more, or one behind it. */
+    private static void tenTicksMore(int load, int due) {
+        SlideBonfire x = Shows.with(Shows.slide(10, 3, 0), Shows.slide(10, load, 0));
+        Shows.programme(x, 0, 1);
+        check.same("54 load " + load, x.missesWith(0), due);
+    }
+
+    /** As the show goes on to slide 0, the loading of slide 1 begins at once, so that ten ticks are just enough for it. */
+    private static void loadingBeginsBehindGoingOn() {
+        SlideBonfire x = Shows.with(Shows.slide(10, 1, 0), Shows.slide(10, 10, 0));
+        Shows.load(x, 0);
+        Shows.programme(x, 0, 1);
+        check.same("54 none is missed", x.missesWith(0), 0);
+    }
+
     private static void missesInGoodTime() {
         SlideBonfire x = Shows.with(Shows.slide(10, 12, 0), Shows.slide(10, 9, 0), Shows.slide(10, 11, 0));
         Shows.programme(x, 0, 1, 2);
@@ -144,6 +171,10 @@ public final class WhatWouldBeTest {
         burningsFor();
         burningsThatAreNotEnough();
         missesWith();
+        missesWithOneThatIsNotUsed();
+        tenTicksMore(10, 1);
+        tenTicksMore(11, 2);
+        loadingBeginsBehindGoingOn();
         missesInGoodTime();
         check.end();
     }
