@@ -214,6 +214,16 @@ public final class ShowTest {
         check.same("8 never", x.tick(50), 0);
     }
 
+    private static void paceToTheSameSlide() {
+        SlideBonfire x = Shows.with(Shows.slide(10, 1, 0));
+        Shows.load(x, 0);
+        Shows.programme(x, 0);
+        x.changePace(3);
+        x.goOn();
+        check.same("8 each showing counts, also of the same slide again", x.tick(7), 2);
+        check.same("39 anew each time", x.shownFor(), 1);
+    }
+
     private static void paceToWhatIsNotLoaded() {
         SlideBonfire x = Shows.with(Shows.slide(10, 1, 0), Shows.slide(10, 4, 0));
         x.changeAhead(0);
@@ -266,6 +276,7 @@ public final class ShowTest {
         tick();
         fadingGoesOnBeforeLoading();
         pace();
+        paceToTheSameSlide();
         paceToWhatIsNotLoaded();
         told();
         check.end();
