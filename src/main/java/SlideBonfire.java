@@ -1001,11 +1001,11 @@ public final class SlideBonfire {
             }
             slides.coolEmbers();
             stage.fadeOnce();
+            // Ahead of the loading: a slide that is shown as this tick ends has been shown for none yet.
+            stage.countShown();
             if (loadOnce()) {
                 shows++;
             }
-            // Counted behind the loading: the pace counts this tick for a slide that has just been shown, too.
-            stage.countShown();
             if (paceIsReached() && proceed()) {
                 shows++;
             }

@@ -212,6 +212,7 @@ public final class Model {
             if (fading != null && --fadeLeft == 0) {
                 fading = null;
             }
+            Integer shownBefore = shown;
             if (loading != null && --loadLeft == 0) {
                 int s = loading;
                 loading = null;
@@ -221,7 +222,7 @@ public final class Model {
                     show(s);
                 }
             }
-            if (shown != null) {
+            if (shown != null && shown.equals(shownBefore)) {
                 shownFor++;
                 if (pace > 0 && shownFor >= pace && awaited == null && !programme.isEmpty()) {
                     goOn();

@@ -187,7 +187,7 @@ public final class ShowTest {
         x.tick(1);
         check.no("8 not on show any more", x.isOnShow(1));
         check.badState("8 nothing fades out", x::fading);
-        check.same("39 shown while another one is waited for", x.shownFor(), 11);
+        check.same("39 shown while another one is waited for", x.shownFor(), 10);
     }
 
     private static void pace() {
@@ -238,9 +238,37 @@ public final class ShowTest {
         check.same("8 while one is waited for the show does not go on", x.tick(3), 0);
         check.same("39 shown until then", x.shownFor(), 5);
         check.same("8 shown", x.tick(1), 1);
-        check.same("39 this tick included", x.shownFor(), 1);
-        check.same("8 with the next tick it goes on", x.tick(1), 1);
+        check.same("39 for no tick yet", x.shownFor(), 0);
+        check.same("8 one tick is not enough", x.tick(1), 0);
+        check.same("39 for one tick", x.shownFor(), 1);
+        check.same("8 with the second tick it goes on", x.tick(1), 1);
         check.same("8 to the first one", x.shown(), 0);
+    }
+
+    private static void shownByLoadingWithThePaceOne() {
+        SlideBonfire x = Shows.with(Shows.slide(10, 3, 0), Shows.slide(10, 1, 0));
+        Shows.programme(x, 0, 1);
+        x.changePace(1);
+        x.goOn();
+        check.same("8 shown as its loading ends", x.tick(3), 1);
+        check.same("13 the show does not go on in the tick whose end shows it", x.shown(), 0);
+        check.same("39 the ticks of waiting do not count", x.shownFor(), 0);
+        check.same("13 it is shown for one tick", x.tick(1), 1);
+        check.same("13 then the next one", x.shown(), 1);
+        check.same("39 shown by the pace: for no tick yet", x.shownFor(), 0);
+        check.same("57 it was loaded meanwhile", x.hits(), 1);
+    }
+
+    private static void shownInPlaceOfAnother() {
+        SlideBonfire x = Shows.ofHeavySlides(2);
+        x.goOn();
+        x.tick(4);
+        check.same("39 one tick of loading, three of being shown", x.shownFor(), 3);
+        x.goOn();
+        check.same("8 the other one is shown", x.tick(1), 1);
+        check.same("39 the other one's ticks do not count", x.shownFor(), 0);
+        x.tick(1);
+        check.same("39 its first tick", x.shownFor(), 1);
     }
 
     private static void told() {
@@ -278,6 +306,8 @@ public final class ShowTest {
         pace();
         paceToTheSameSlide();
         paceToWhatIsNotLoaded();
+        shownByLoadingWithThePaceOne();
+        shownInPlaceOfAnother();
         told();
         check.end();
     }
