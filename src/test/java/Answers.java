@@ -46,4 +46,22 @@ final class Answers {
         }
         return all.toString();
     }
+
+    /** What undo() and goBack() bring up, one after the other, until nothing is left; the show is changed by it. */
+    static String ofWhatIsKept(SlideBonfire x) {
+        StringBuilder all = new StringBuilder();
+        while (x.savedStates() > 0) {
+            x.undo();
+            all.append(x.digest()).append('\n');
+        }
+        for (int slot = 0; slot < 2; slot++) {
+            try {
+                x.goBack(slot);
+            } catch (IllegalStateException e) {
+                all.append("empty ");
+            }
+            all.append(x.digest()).append('\n');
+        }
+        return all.toString();
+    }
 }

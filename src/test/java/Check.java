@@ -1,11 +1,26 @@
+import java.util.function.BiConsumer;
+import java.util.function.Consumer;
+import java.util.function.Supplier;
+
 /** Counts what a test finds, and prints each answer that is not the one that is due. */
 final class Check {
     private int right = 0;
     private int wrong = 0;
+    private String about = "";
 
     /** A call that is looked at for what it throws. */
     interface Call {
         void run();
+    }
+
+    /** What is printed ahead of each wrong answer from now on. */
+    void about(String text) {
+        about = text;
+    }
+
+    /** How many answers were looked at. */
+    int looks() {
+        return right + wrong;
     }
 
     void same(String what, long got, long due) {
@@ -17,8 +32,15 @@ final class Check {
             what + " answered " + got + ", due is " + due);
     }
 
+    /** Of two long texts only the first lines that differ are printed. */
     void sameText(String what, String got, String due) {
-        count(got.equals(due), what + " answered " + got + ", due is " + due);
+        String[] gotLines = got.split("\n", -1);
+        String[] dueLines = due.split("\n", -1);
+        int i = 0;
+        while (i + 1 < Math.min(gotLines.length, dueLines.length) && gotLines[i].equals(dueLines[i])) {
+            i++;
+        }
+        count(got.equals(due), what + " answered " + gotLines[i] + ", due is " + dueLines[i]);
     }
 
     void yes(String what, boolean got) {
@@ -51,12 +73,45 @@ final class Check {
         }
     }
 
+    void badArgument(String what, Supplier<SlideBonfire> make, Consumer<SlideBonfire> call) {
+        refused(what, IllegalArgumentException.class, make, call);
+    }
+
+    void badIndex(String what, Supplier<SlideBonfire> make, Consumer<SlideBonfire> call) {
+        refused(what, IndexOutOfBoundsException.class, make, call);
+    }
+
+    void badState(String what, Supplier<SlideBonfire> make, Consumer<SlideBonfire> call) {
+        refused(what, IllegalStateException.class, make, call);
+    }
+
+    /** The call is refused for each number that is no slide's, whether there are none, some, or as many as may be. */
+    void noSuchSlide(BiConsumer<SlideBonfire, Integer> call) {
+        badIndex("slide 0 of none", SlideBonfire::new, s -> call.accept(s, 0));
+        badIndex("slide -1 of none", SlideBonfire::new, s -> call.accept(s, -1));
+        badIndex("slide 16 of 16", () -> Shows.ofAlike(16, 1, 1, 0), s -> call.accept(s, 16));
+        for (int slide : new int[] {-1, 6, Integer.MIN_VALUE, Integer.MAX_VALUE}) {
+            badIndex("slide " + slide + " of 6", Shows::busy, s -> call.accept(s, slide));
+        }
+    }
+
+    /** The call throws that exception, and changes nothing: a second show, without the call, goes on in the same way. */
+    private void refused(String what, Class<? extends RuntimeException> due, Supplier<SlideBonfire> make,
+            Consumer<SlideBonfire> call) {
+        SlideBonfire show = make.get();
+        SlideBonfire twin = make.get();
+        throwsExactly(what, due, () -> call.accept(show));
+        same(what + ", then digest()", show.digest(), twin.digest());
+        sameText(what + ", then all", Answers.of(show), Answers.of(twin));
+        sameText(what + ", then the saved states and the slots", Answers.ofWhatIsKept(show), Answers.ofWhatIsKept(twin));
+    }
+
     private void count(boolean isRight, String message) {
         if (isRight) {
             right++;
         } else {
             wrong++;
-            System.out.println("wrong: " + message);
+            System.out.println("wrong: " + about + message);
         }
     }
 

@@ -55,4 +55,58 @@ final class Shows {
             x.append(c);
         }
     }
+
+    /**
+     * A show in which all goes on at once: slide 0 is shown, 1 fades out, 2 is loaded, 3 is being loaded, 4 is asked for,
+     * and the ember of 5 glows; the slot 0 has a snapshot, six states are saved, and the buffer has a text.
+     */
+    static SlideBonfire busy() {
+        SlideBonfire x = with(slide(30, 4, 6), slide(30, 4, 6), slide(20, 4, 0), slide(20, 8, 0), slide(10, 5, 0),
+            slide(10, 3, 0));
+        x.changeAhead(0);
+        load(x, 0, 1, 2, 5);
+        programme(x, 1, 0, 3);
+        x.goOn();
+        x.goOn();
+        x.ask(3);
+        x.ask(4);
+        x.burn(5);
+        x.tick(2);
+        x.keep(0);
+        write(x, "n;t");
+        return x;
+    }
+
+    /** The same, but slide 3, which is being loaded, is waited for. */
+    static SlideBonfire waiting() {
+        SlideBonfire x = busy();
+        x.goOn();
+        return x;
+    }
+
+    /** So many slides alike, none of which is in the programme. */
+    static SlideBonfire ofAlike(int slides, int cost, int load, int fade) {
+        SlideBonfire x = new SlideBonfire();
+        for (int i = 0; i < slides; i++) {
+            x.addSlide(cost, load, fade);
+        }
+        return x;
+    }
+
+    /** One slide at so many places; it is not loaded, and nothing is loaded in good time. */
+    static SlideBonfire ofPlaces(int places) {
+        SlideBonfire x = ofAlike(1, 10, 3, 0);
+        x.changeAhead(0);
+        for (int i = 0; i < places; i++) {
+            x.insert(i, 0);
+        }
+        return x;
+    }
+
+    /** Nothing was shown yet; slide 0 is waited for, and is being loaded for three ticks. */
+    static SlideBonfire ofFirstWaited() {
+        SlideBonfire x = ofPlaces(1);
+        x.goOn();
+        return x;
+    }
 }
