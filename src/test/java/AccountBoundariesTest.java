@@ -113,17 +113,9 @@ public final class AccountBoundariesTest {
         check.sameShare("one of two", x.hitShare(), 0.5);
     }
 
-    private static long hash(long... values) {
-        long hash = 4447;
-        for (long value : values) {
-            hash = 31 * hash + value;
-        }
-        return hash;
-    }
-
     @Says(promise = 64, sentence = "The hash starts at 4447.")
     static void digestOfANewShow(Check check) {
-        long due = hash(0, 0, 0, 0, 0, 0, 0, 0, 0, 0, 0, 0, 0, 150, 1, 0, 5, 0, 0, 0, 0, 0, 0, 0, 0, 0, 0, 0, 0, 0, 0, 0);
+        long due = Answers.hash(0, 0, 0, 0, 0, 0, 0, 0, 0, 0, 0, 0, 0, 150, 1, 0, 5, 0, 0, 0, 0, 0, 0, 0, 0, 0, 0, 0, 0, 0, 0, 0);
         check.same("all that throws counts 0", new SlideBonfire().digest(), due);
     }
 
@@ -131,19 +123,19 @@ public final class AccountBoundariesTest {
     static void digestOfOneSlide(Check check) {
         SlideBonfire x = new SlideBonfire();
         x.addSlide(50, 20, 10);
-        long due = hash(1, 50, 20, 10, 0, 0, 0, 0, 0, 0, 0, 0, 0, 0, 0, 0, 0, 0, 0, 0, 0, 0, 0, 150, 1, 0, 5, 0, 0, 0, 0, 0, 0, 0,
+        long due = Answers.hash(1, 50, 20, 10, 0, 0, 0, 0, 0, 0, 0, 0, 0, 0, 0, 0, 0, 0, 0, 0, 0, 0, 0, 150, 1, 0, 5, 0, 0, 0, 0, 0, 0, 0,
             0, 0, 0, 1, 0, 0, 0, 0);
         check.same("not in the programme, not loaded", x.digest(), due);
         x.insert(0, 0);
-        due = hash(1, 50, 20, 10, 0, 0, 0, 0, 1, 0, 0, 1, 0, 0, 0, 0, 0, 0, 0, 1, 20, 0, 50, 50, 150, 1, 0, 5, 0, 0, 0, 0, 0, 0, 1,
+        due = Answers.hash(1, 50, 20, 10, 0, 0, 0, 0, 1, 0, 0, 1, 0, 0, 0, 0, 0, 0, 0, 1, 20, 0, 50, 50, 150, 1, 0, 5, 0, 0, 0, 0, 0, 0, 1,
             0, 0, 0, 2, 0, 0, 0, 0);
         check.same("in it, being loaded", x.digest(), due);
         x.tick(20);
-        due = hash(1, 50, 20, 10, 1, 0, 0, 0, 1, 1, 0, 1, 0, 0, 0, 0, 0, 0, 0, 0, 0, 0, 50, 50, 150, 1, 0, 5, 0, 0, 0, 20, 0, 0, 1,
+        due = Answers.hash(1, 50, 20, 10, 1, 0, 0, 0, 1, 1, 0, 1, 0, 0, 0, 0, 0, 0, 0, 0, 0, 0, 50, 50, 150, 1, 0, 5, 0, 0, 0, 20, 0, 0, 1,
             0, 0, 0, 3, 0, 0, 0, 0);
         check.same("loaded, the first one to burn", x.digest(), due);
         x.goOn();
-        due = hash(1, 50, 20, 10, 1, 1, 0, 0, 1, 0, 0, 1, 0, 1, 1, 0, 0, 0, 0, 0, 0, 0, 50, 50, 150, 1, 0, 5, 0, 0, 0, 20, 1, 0, 1,
+        due = Answers.hash(1, 50, 20, 10, 1, 1, 0, 0, 1, 0, 0, 1, 0, 1, 1, 0, 0, 0, 0, 0, 0, 0, 50, 50, 150, 1, 0, 5, 0, 0, 0, 20, 1, 0, 1,
             0, 0, 0, 4, Double.doubleToLongBits(1.0), 0, 0, 0);
         check.same("shown, the share is 1.0", x.digest(), due);
     }
@@ -164,14 +156,62 @@ public final class AccountBoundariesTest {
             values[16] = 5;
             values[29] = due[i][0];
             values[30] = due[i][1];
-            check.same("an empty buffer", x.digest(), hash(java.util.Arrays.copyOf(values, 32)));
+            check.same("an empty buffer", x.digest(), Answers.hash(java.util.Arrays.copyOf(values, 32)));
             for (int length = 1; length <= 60; length++) {
                 x.append(32 + length);
                 values[31] = length;
                 values[31 + length] = 32 + length;
-                check.same("length " + length, x.digest(), hash(java.util.Arrays.copyOf(values, 32 + length)));
+                check.same("length " + length, x.digest(), Answers.hash(java.util.Arrays.copyOf(values, 32 + length)));
             }
         }
+    }
+
+    @Says(promise = 64, sentence = "For each value v of the following list, in order, the hash becomes 31 * hash + v, in long "
+        + "arithmetic with overflow.")
+    static void digestOfAllAnswers(Check check) {
+        check.same("busy", Shows.busy().digest(), Answers.digest(Shows.busy(), "n;t", true, false));
+        check.same("waiting", Shows.waiting().digest(), Answers.digest(Shows.waiting(), "n;t", true, false));
+        SlideBonfire x = Shows.busy();
+        x.tick(2);
+        check.same("an ember glows for its last tick", x.glowOf(5), 1);
+        check.same("with that ember", x.digest(), Answers.digest(x, "n;t", true, false));
+        SlideBonfire full = Shows.ofAlike(16, 9, 20, 0);
+        for (int i = 0; i < 16; i++) {
+            full.ask(i);
+        }
+        for (int i = 0; i < 24; i++) {
+            full.insert(i, 15 - i % 16);
+        }
+        check.same("all slides and places, and as many as may be asked for", full.digest(), Answers.digest(full, "", false, false));
+    }
+
+    @Says(promise = 64, sentence = "the bits of hitShare (as Double.doubleToLongBits)")
+    static void digestOfShares(Check check) {
+        for (int misses : new int[] {0, 1, 2, 3, 6, 11, 15}) {
+            for (int hits : new int[] {0, 1, 2, 3, 7, 20}) {
+                SlideBonfire x = withShare(hits, misses);
+                double share = hits + misses == 0 ? 0.0 : (double) hits / (hits + misses);
+                check.sameShare(hits + " hits, " + misses + " misses", x.hitShare(), share);
+                check.same(hits + " hits, " + misses + " misses, digest()", x.digest(), Answers.digest(x, "", false, false));
+            }
+        }
+    }
+
+    /** So many places are missed, then one is hit so often. */
+    private static SlideBonfire withShare(int hits, int misses) {
+        SlideBonfire x = Shows.ofHeavySlides(misses + 1);
+        for (int i = 0; i < misses; i++) {
+            x.goOn();
+            x.tick(1);
+        }
+        Shows.load(x, misses);
+        while (x.places() > 1) {
+            x.takeOut(0);
+        }
+        for (int i = 0; i < hits; i++) {
+            x.goOn();
+        }
+        return x;
     }
 
     public static void main(String[] args) {

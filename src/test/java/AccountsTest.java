@@ -43,17 +43,9 @@ public final class AccountsTest {
         check.same("62 until it is shown", x.waited(), 7);
     }
 
-    private static long hash(long... values) {
-        long hash = 4447;
-        for (long value : values) {
-            hash = 31 * hash + value;
-        }
-        return hash;
-    }
-
     private static void digestOfNew() {
         SlideBonfire x = new SlideBonfire();
-        long due = hash(0, 0, 0, 0, 0, 0, 0, 0, 0, 0, 0, 0, 0, 150, 1, 0, 5, 0, 0, 0, 0, 0, 0, 0, 0, 0, 0, 0, 0, 0, 0, 0);
+        long due = Answers.hash(0, 0, 0, 0, 0, 0, 0, 0, 0, 0, 0, 0, 0, 150, 1, 0, 5, 0, 0, 0, 0, 0, 0, 0, 0, 0, 0, 0, 0, 0, 0, 0);
         check.same("64 new", x.digest(), due);
         check.same("64 nothing is changed", x.digest(), due);
     }
@@ -72,7 +64,7 @@ public final class AccountsTest {
         x.keep(1);
         x.append('t');
         x.append('1');
-        long due = hash(3,
+        long due = Answers.hash(3,
             50, 3, 2, 1, 1, 0, 0, 1, 0, 0,
             40, 7, 4, 0, 0, 0, 1, 2, 0, 0,
             30, 2, 0, 0, 0, 0, 0, 0, 0, 0,
@@ -100,49 +92,9 @@ public final class AccountsTest {
             }
             x.tick(2);
             check.sameShare("63 share", x.hitShare(), (double) x.hits() / (x.hits() + x.misses()));
-            check.same("64 its bits", difference(x), 0);
+            check.same("64 its bits", x.digest(), Answers.digest(x, "", false, false));
         }
         check.sameShare("63 none", y.hitShare(), 0.0);
-    }
-
-    /** The digest less what it is by the answers; the slots and the buffer are empty, and so are the asked ones. */
-    private static long difference(SlideBonfire x) {
-        long[] values = new long[128];
-        int n = 0;
-        values[n++] = x.slides();
-        for (int s = 0; s < x.slides(); s++) {
-            int slide = s;
-            long[] more = {x.costOf(s), x.loadOf(s), x.fadeOf(s), x.isLoaded(s) ? 1 : 0, x.isOnShow(s) ? 1 : 0, x.glowOf(s),
-                x.burntTimes(s), orZero(() -> x.nextUse(slide)), orZero(() -> x.burnPlace(slide) + 1), x.burningsFor(s)};
-            for (long value : more) {
-                values[n++] = value;
-            }
-        }
-        values[n++] = x.places();
-        for (int p = 0; p < x.places(); p++) {
-            values[n++] = x.slideAt(p);
-        }
-        long[] more = {orZero(() -> x.showPlace() + 1), orZero(() -> x.shown() + 1), orZero(() -> x.fading() + 1), x.fadeLeft(),
-            orZero(() -> x.awaited() + 1), orZero(x::shownFor), orZero(() -> x.loading() + 1), x.loadLeft(), x.asked(),
-            x.takenBySlides(), x.takenByAccount(), x.memory(), x.ahead(), x.order(), x.glow(), x.pace(),
-            orZero(x::ticksToShowByTicks), orZero(x::ticksToShowBySums), x.time(), x.hits(), x.misses(), x.loads(),
-            x.warmLoads(), x.burnings(), x.waited(), x.savedStates(), Double.doubleToLongBits(x.hitShare()), 0, 0, 0};
-        for (long value : more) {
-            values[n++] = value;
-        }
-        return x.digest() - hash(java.util.Arrays.copyOf(values, n));
-    }
-
-    private interface Answer {
-        int get();
-    }
-
-    private static long orZero(Answer answer) {
-        try {
-            return answer.get();
-        } catch (IllegalStateException e) {
-            return 0;
-        }
     }
 
     public static void main(String[] args) {

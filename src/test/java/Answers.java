@@ -1,6 +1,7 @@
 import java.lang.reflect.InvocationTargetException;
 import java.lang.reflect.Method;
 import java.lang.reflect.Modifier;
+import java.util.ArrayList;
 import java.util.Arrays;
 import java.util.Comparator;
 import java.util.List;
@@ -63,5 +64,69 @@ final class Answers {
             all.append(x.digest()).append('\n');
         }
         return all.toString();
+    }
+
+    private interface Answer {
+        long get();
+    }
+
+    private static long orZero(Answer answer, int more) {
+        try {
+            return answer.get() + more;
+        } catch (IllegalStateException e) {
+            return 0;
+        }
+    }
+
+    /** The digest of a show with this text and these slots, by its other answers. */
+    static long digest(SlideBonfire x, String text, boolean first, boolean second) {
+        List<Long> values = new ArrayList<>();
+        addSlides(values, x);
+        addShow(values, x);
+        long[] accounts = {x.time(), x.hits(), x.misses(), x.loads(), x.warmLoads(), x.burnings(), x.waited(), x.savedStates(),
+            Double.doubleToLongBits(x.hitShare()), first ? 1 : 0, second ? 1 : 0, text.length()};
+        add(values, accounts);
+        for (char c : text.toCharArray()) {
+            add(values, c);
+        }
+        return hash(values.stream().mapToLong(Long::longValue).toArray());
+    }
+
+    /** The hash of the digest, over these values. */
+    static long hash(long... values) {
+        long hash = 4447;
+        for (long value : values) {
+            hash = 31 * hash + value;
+        }
+        return hash;
+    }
+
+    private static void add(List<Long> values, long... more) {
+        for (long value : more) {
+            values.add(value);
+        }
+    }
+
+    private static void addSlides(List<Long> values, SlideBonfire x) {
+        add(values, x.slides());
+        for (int i = 0; i < x.slides(); i++) {
+            int s = i;
+            add(values, x.costOf(s), x.loadOf(s), x.fadeOf(s), x.isLoaded(s) ? 1 : 0, x.isOnShow(s) ? 1 : 0, x.glowOf(s),
+                x.burntTimes(s), orZero(() -> x.nextUse(s), 0), orZero(() -> x.burnPlace(s), 1), x.burningsFor(s));
+        }
+        add(values, x.places());
+        for (int place = 0; place < x.places(); place++) {
+            add(values, x.slideAt(place));
+        }
+    }
+
+    private static void addShow(List<Long> values, SlideBonfire x) {
+        add(values, orZero(x::showPlace, 1), orZero(x::shown, 1), orZero(x::fading, 1), x.fadeLeft(), orZero(x::awaited, 1),
+            orZero(x::shownFor, 0), orZero(x::loading, 1), x.loadLeft(), x.asked());
+        for (int place = 0; place < x.asked(); place++) {
+            add(values, x.askedAt(place));
+        }
+        add(values, x.takenBySlides(), x.takenByAccount(), x.memory(), x.ahead(), x.order(), x.glow(), x.pace(),
+            orZero(x::ticksToShowByTicks, 0), orZero(x::ticksToShowBySums, 0));
     }
 }

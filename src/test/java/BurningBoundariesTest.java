@@ -170,7 +170,7 @@ public final class BurningBoundariesTest {
     static void usedAsShown(Check check) {
         SlideBonfire x = Shows.ofAlike(3, 10, 1, 0);
         x.changeAhead(0);
-        Shows.load(x, 2, 1, 0);
+        Shows.load(x, 0, 1, 2);
         Shows.programme(x, 2, 1, 0);
         x.goOn();
         x.goOn();
@@ -204,6 +204,20 @@ public final class BurningBoundariesTest {
         check.same("1 at the first one, though also at the fourth one", x.burnPlace(1), 2);
         x.ask(3);
         check.sameText("the first one is burnt", loaded(x), "1 2");
+    }
+
+    @Says(promise = 31, sentence = "with 2 the one that is used next the latest in the programme")
+    static void placeOfTheShowIsTheLatest(Check check) {
+        SlideBonfire x = Shows.ofAlike(3, 10, 1, 0);
+        Shows.load(x, 0, 1, 2);
+        Shows.programme(x, 0, 1, 2);
+        x.changeOrder(2);
+        x.goOn();
+        x.goOn();
+        x.takeOut(1);
+        check.same("slide 1 is shown, but 0 is at the place of the show", x.showPlace(), 0);
+        check.same("the place of the show comes next the latest", x.burnPlace(0), 0);
+        check.same("the next place comes first", x.burnPlace(2), 1);
     }
 
     @Says(promise = 31, sentence = "one that is not in it being later than all")

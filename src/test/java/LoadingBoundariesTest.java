@@ -48,6 +48,12 @@ public final class LoadingBoundariesTest {
         x.goBack(0);
         x.burn(0);
         check.same("behind burn", x.loading(), 0);
+        x = Shows.ofAlike(4, 50, 1, 0);
+        Shows.load(x, 0, 1, 2);
+        x.insert(0, 3);
+        check.badState("no room", x::loading);
+        x.changeMemory(200);
+        check.same("behind changeMemory", x.loading(), 3);
         x = Shows.ofAlike(2, 10, 3, 0);
         x.ask(1);
         x.ask(0);

@@ -108,6 +108,20 @@ public final class SettingBoundariesTest {
         check.same("the same again", x.changeGlow(0), 0);
     }
 
+    @Says(promise = 12, sentence = "A slide that is burnt leaves an ember that glows for as many ticks as told")
+    static void embersThatGlowAlready(Check check) {
+        SlideBonfire x = Shows.ofAlike(2, 10, 1, 0);
+        Shows.load(x, 0, 1);
+        x.burn(0);
+        x.changeGlow(0);
+        check.same("as many ticks as were told as it was burnt", x.glowOf(0), 5);
+        x.burn(1);
+        check.same("none is told", x.glowOf(1), 0);
+        x.changeGlow(20);
+        check.same("no more ticks than that", x.glowOf(0), 5);
+        check.same("no ember comes of it", x.glowOf(1), 0);
+    }
+
     @Says(promise = 12, sentence = "Throws IllegalArgumentException if ticks is out of range")
     static void wrongGlows(Check check) {
         for (int ticks : new int[] {-1, 21, Integer.MIN_VALUE, Integer.MAX_VALUE}) {

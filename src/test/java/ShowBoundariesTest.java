@@ -339,6 +339,15 @@ public final class ShowBoundariesTest {
         check.badState("it is shown", x::awaited);
     }
 
+    @Says(promise = 38, sentence = "Returns the slide that is waited for.")
+    static void waitedForWithoutItsPlace(Check check) {
+        SlideBonfire x = Shows.ofFirstWaited();
+        x.takeOut(0);
+        check.same("its place is taken out", x.awaited(), 0);
+        check.same("it is shown all the same", x.tick(3), 1);
+        check.same("shown", x.shown(), 0);
+    }
+
     @Says(promise = 39, sentence = "Throws IllegalStateException if none is")
     static void shownForOfNone(Check check) {
         check.badState("of a new show", SlideBonfire::new, s -> s.shownFor());
@@ -365,6 +374,8 @@ public final class ShowBoundariesTest {
         check.same("shown as its loading ends", x.shownFor(), 0);
         x.tick(1);
         check.same("a tick later", x.shownFor(), 1);
+        x.goOn();
+        check.same("shown again: anew", x.shownFor(), 0);
         x = Shows.waiting();
         int before = x.shownFor();
         x.tick(1);

@@ -109,4 +109,11 @@ final class Shows {
         x.goOn();
         return x;
     }
+
+    /** The same, three ticks later: slide 0, the only one of the programme, is shown. */
+    static SlideBonfire ofFirstShown() {
+        SlideBonfire x = ofFirstWaited();
+        x.tick(3);
+        return x;
+    }
 }

@@ -133,6 +133,24 @@ public final class SlideBoundariesTest {
         check.badIndex("place 1 of an empty programme", () -> Shows.ofAlike(4, 1, 1, 0), s -> s.insert(1, 0));
     }
 
+    @Says(promise = 3, sentence = "Puts a slide into the programme, ahead of a place or behind all")
+    static void othersStayInTurn(Check check) {
+        for (int place = 0; place <= 23; place++) {
+            SlideBonfire x = Shows.ofAlike(16, 1, 1, 0);
+            for (int i = 0; i < 23; i++) {
+                x.insert(i, i % 15);
+            }
+            x.insert(place, 15);
+            for (int i = 0; i < 24; i++) {
+                check.same("insert(" + place + ", 15), place " + i, x.slideAt(i), i == place ? 15 : (i < place ? i : i - 1) % 15);
+            }
+            check.same("takeOut(" + place + ")", x.takeOut(place), 15);
+            for (int i = 0; i < 23; i++) {
+                check.same("takeOut(" + place + "), place " + i, x.slideAt(i), i % 15);
+            }
+        }
+    }
+
     @Says(promise = 3, sentence = "- slide: the number of the slide")
     static void slidesToInsert(Check check) {
         SlideBonfire x = Shows.ofAlike(16, 1, 1, 0);

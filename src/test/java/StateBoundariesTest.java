@@ -181,6 +181,66 @@ public final class StateBoundariesTest {
         }
     }
 
+    private static int[] accounts(SlideBonfire x) {
+        return new int[] {x.time(), x.hits(), x.misses(), x.loads(), x.warmLoads(), x.burnings(), x.waited()};
+    }
+
+    /** Four slides of which three have room: with the pace all is counted again and again. */
+    private static SlideBonfire counting() {
+        SlideBonfire x = Shows.ofAlike(4, 50, 4, 1);
+        Shows.programme(x, 0, 1, 2, 3, 3);
+        x.changeGlow(20);
+        x.changePace(3);
+        x.goOn();
+        x.tick(50);
+        return x;
+    }
+
+    @Says(promise = 20, sentence = "Restores the latest saved state, and drops it.")
+    static void restoresEachAccount(Check check) {
+        SlideBonfire x = counting();
+        int[] before = accounts(x);
+        String all = Answers.of(x);
+        x.keep(0);
+        x.tick(100);
+        int[] later = accounts(x);
+        for (int i = 0; i < before.length; i++) {
+            check.yes("account " + i + " goes on", later[i] > before[i]);
+        }
+        x.undo();
+        check.sameText("undone", Answers.of(x), all);
+        x.tick(100);
+        check.same("goes on as before", x.time() + x.hits() + x.waited(), later[0] + later[1] + later[6]);
+        x.goBack(0);
+        check.sameText("the snapshot", Answers.of(x), all);
+        Shows.write(x, "t100;t1;x");
+        check.badArgument("not followed", () -> x.follow());
+        x.clearBuffer();
+        check.sameText("nothing is counted then", Answers.of(x), all);
+    }
+
+    @Says(promise = 19, sentence = "Goes back to a snapshot, which stays.")
+    static void otherSlides(Check check) {
+        SlideBonfire x = new SlideBonfire();
+        x.addSlide(11, 12, 3);
+        x.addSlide(14, 15, 6);
+        x.keep(0);
+        x.undo();
+        x.undo();
+        x.addSlide(27, 18, 9);
+        x.keep(1);
+        check.same("one slide", x.slides(), 1);
+        x.goBack(0);
+        check.same("two slides", x.slides(), 2);
+        check.same("the first one", x.costOf(0) * 1000 + x.loadOf(0) * 10 + x.fadeOf(0), 11123);
+        check.same("the second one", x.costOf(1) * 1000 + x.loadOf(1) * 10 + x.fadeOf(1), 14156);
+        x.goBack(1);
+        check.same("one slide again", x.slides(), 1);
+        check.same("this one", x.costOf(0) * 1000 + x.loadOf(0) * 10 + x.fadeOf(0), 27189);
+        x.undo();
+        check.same("undone", x.costOf(0) * 1000 + x.loadOf(0) * 10 + x.fadeOf(0), 11123);
+    }
+
     @Says(promise = 20, sentence = "all but the buffer, the slots and the saved states. At most 6 states are saved")
     static void undoLeavesTheBufferAndTheSlots(Check check) {
         SlideBonfire x = new SlideBonfire();

@@ -1,3 +1,4 @@
+import java.util.function.Consumer;
 import java.util.function.Supplier;
 
 /** Promises 14 to 17: the buffer from empty to full, where its first error is, and which orders are not followed. */
@@ -69,6 +70,20 @@ public final class TextBoundariesTest {
         SlideBonfire x = writing("x".repeat(60));
         check.same("full", x.clearBuffer(), 60);
         check.same("empty then", x.clearBuffer(), 0);
+    }
+
+    @Says(promise = 15, sentence = "Clears the buffer.")
+    static void nothingIsLeft(Check check) {
+        SlideBonfire x = writing("t99;n;n;x");
+        Shows.write(x, "t9");
+        check.same("no error is left", x.firstError(), 2);
+        check.same("one order", x.follow(), 1);
+        check.same("of nine ticks", x.time(), 9);
+        x.append('t');
+        check.badArgument("nor is anything left by follow()", () -> x.follow());
+        x.append('1');
+        check.same("one order again", x.follow(), 1);
+        check.same("of one tick", x.time(), 10);
     }
 
     @Says(promise = 16, sentence = "Returns the index of the first character that is a syntax error; the length of the buffer if "
@@ -224,6 +239,37 @@ public final class TextBoundariesTest {
 
     private static int followed(String text) {
         return told(text).get().follow();
+    }
+
+    /** Slides 0 and 1 are loaded, 0 is shown; nothing is being loaded. */
+    private static SlideBonfire idle(int... programme) {
+        SlideBonfire x = Shows.ofAlike(4, 10, 4, 0);
+        Shows.load(x, 0, 1);
+        Shows.programme(x, programme);
+        x.goOn();
+        return x;
+    }
+
+    private static void sameAsTheCall(Check check, String text, Supplier<SlideBonfire> show, Consumer<SlideBonfire> call) {
+        SlideBonfire x = show.get();
+        SlideBonfire y = show.get();
+        Shows.write(x, text);
+        x.follow();
+        call.accept(y);
+        check.same(text + " as the call, digest()", x.digest(), y.digest());
+        check.sameText(text + " as the call", Answers.of(x), Answers.of(y));
+    }
+
+    @Says(promise = 17, sentence = "Follows the orders of the buffer as goOn(), ask(), burn(), tick(), and insert() behind all do")
+    static void asTheCallsDo(Check check) {
+        sameAsTheCall(check, "n", () -> idle(0, 1, 2), x -> x.goOn());
+        sameAsTheCall(check, "n", () -> idle(0, 2), x -> x.goOn());
+        sameAsTheCall(check, "a3", () -> idle(0, 1), x -> x.ask(3));
+        sameAsTheCall(check, "b1", () -> idle(0, 1), x -> x.burn(1));
+        sameAsTheCall(check, "p2", () -> idle(0), x -> x.insert(1, 2));
+        sameAsTheCall(check, "p0", () -> idle(0, 1), x -> x.insert(2, 0));
+        sameAsTheCall(check, "t1", () -> idle(0, 1), x -> x.tick(1));
+        sameAsTheCall(check, "t100", () -> idle(0, 2), x -> x.tick(100));
     }
 
     @Says(promise = 17, sentence = "one after the other, all or nothing, and clears the buffer")

@@ -40,6 +40,9 @@ public final class TickBoundariesTest {
         x.changePace(1);
         x.goOn();
         check.same("by loading and by the pace", x.tick(4), 3);
+        x = Shows.ofFirstShown();
+        x.changePace(3);
+        check.same("the same one again", x.tick(7), 2);
     }
 
     @Says(promise = 56, sentence = "With each tick, in this order: the time becomes 1 more")
@@ -196,6 +199,21 @@ public final class TickBoundariesTest {
             check.same("with the tick that makes it " + pace, x.tick(1), 1);
             check.same("the next slide", x.shown(), 1);
             check.same("for no tick yet", x.shownFor(), 0);
+        }
+    }
+
+    @Says(promise = 13, sentence = "with none left the slide is loaded, and, if it is waited for, shown; then, if the programme is "
+        + "not empty")
+    static void paceBehindLoading(Check check) {
+        for (int pace = 4; pace <= 6; pace++) {
+            SlideBonfire x = Shows.with(Shows.slide(10, 1, 0), Shows.slide(10, 5, 0));
+            Shows.load(x, 0);
+            Shows.programme(x, 0, 1);
+            x.changePace(pace);
+            x.goOn();
+            check.same("the next one is loaded in as many ticks as the pace " + pace, x.tick(pace), pace >= 5 ? 1 : 0);
+            check.same("hits at the pace " + pace, x.hits(), pace >= 5 ? 2 : 1);
+            check.same("misses at the pace " + pace, x.misses(), pace >= 5 ? 0 : 1);
         }
     }
 

@@ -20,20 +20,14 @@ public final class WouldBeBoundariesTest {
     static void noneIsWaitedForByTicks(Check check) {
         check.badState("of a new show", SlideBonfire::new, s -> s.ticksToShowByTicks());
         check.badState("being loaded, but not waited for", Shows::busy, s -> s.ticksToShowByTicks());
-        check.badState("shown by now", WouldBeBoundariesTest::shownByNow, s -> s.ticksToShowByTicks());
+        check.badState("shown by now", Shows::ofFirstShown, s -> s.ticksToShowByTicks());
     }
 
     @Says(promise = 52, sentence = "Throws IllegalStateException if none is waited for")
     static void noneIsWaitedForBySums(Check check) {
         check.badState("of a new show", SlideBonfire::new, s -> s.ticksToShowBySums());
         check.badState("being loaded, but not waited for", Shows::busy, s -> s.ticksToShowBySums());
-        check.badState("shown by now", WouldBeBoundariesTest::shownByNow, s -> s.ticksToShowBySums());
-    }
-
-    private static SlideBonfire shownByNow() {
-        SlideBonfire x = Shows.ofFirstWaited();
-        x.tick(3);
-        return x;
+        check.badState("shown by now", Shows::ofFirstShown, s -> s.ticksToShowBySums());
     }
 
     @Says(promise = 51, sentence = "Tells in how many ticks the slide that is waited for is shown, if nothing else is done, by "
