@@ -37,10 +37,14 @@ final class Check {
         String[] gotLines = got.split("\n", -1);
         String[] dueLines = due.split("\n", -1);
         int i = 0;
-        while (i + 1 < Math.min(gotLines.length, dueLines.length) && gotLines[i].equals(dueLines[i])) {
+        while (i < Math.min(gotLines.length, dueLines.length) && gotLines[i].equals(dueLines[i])) {
             i++;
         }
-        count(got.equals(due), what + " answered " + gotLines[i] + ", due is " + dueLines[i]);
+        count(got.equals(due), what + " answered " + lineAt(gotLines, i) + ", due is " + lineAt(dueLines, i));
+    }
+
+    private static String lineAt(String[] lines, int place) {
+        return place < lines.length ? lines[place] : "no more lines";
     }
 
     void yes(String what, boolean got) {

@@ -1,6 +1,3 @@
-import java.io.IOException;
-import java.nio.file.Files;
-import java.nio.file.Path;
 import java.util.ArrayList;
 import java.util.HashMap;
 import java.util.List;
@@ -13,7 +10,7 @@ final class Document {
 
     Document() {
         List<String> section = new ArrayList<>();
-        for (String line : lines()) {
+        for (String line : Project.read(Project.DOCUMENT).split("\\R")) {
             if (line.startsWith("## ")) {
                 section = new ArrayList<>();
                 sections.put(line.substring(3).replaceAll(":.*", ""), section);
@@ -23,15 +20,8 @@ final class Document {
         }
     }
 
-    private static List<String> lines() {
-        try {
-            return Files.readAllLines(Path.of(System.getProperty("bonfire.document")));
-        } catch (IOException e) {
-            throw new IllegalStateException(e);
-        }
-    }
-
-    private static String plain(String text) {
+    /** A text without the marks of code, and with single spaces. */
+    static String plain(String text) {
         return text.replace("`", "").replaceAll("\\s+", " ").trim();
     }
 

@@ -1,9 +1,6 @@
-import java.io.IOException;
 import java.lang.reflect.Field;
 import java.lang.reflect.Method;
 import java.lang.reflect.Modifier;
-import java.nio.file.Files;
-import java.nio.file.Path;
 import java.util.Arrays;
 import java.util.Set;
 import java.util.TreeSet;
@@ -14,12 +11,8 @@ import java.util.regex.Pattern;
 public final class LanguageTest {
     private static final Check check = new Check();
 
-    private static String read(String property) throws IOException {
-        return Files.readString(Path.of(System.getProperty(property)));
-    }
-
-    private static Set<String> faceOfDocument() throws IOException {
-        String document = read("bonfire.document");
+    private static Set<String> faceOfDocument() {
+        String document = Project.read(Project.DOCUMENT);
         int from = document.indexOf("```java");
         String block = document.substring(from, document.indexOf("```", from + 3));
         Matcher m = Pattern.compile("public (\\w+) (\\w+)\\((.*?)\\)(?: throws (.*?))?;").matcher(block);
@@ -35,7 +28,7 @@ public final class LanguageTest {
         return String.join(", ", Arrays.stream(types).map(Class::getSimpleName).toArray(String[]::new));
     }
 
-    private static void face() throws IOException {
+    private static void face() {
         Set<String> face = new TreeSet<>();
         Set<String> publicNames = new TreeSet<>();
         for (Method m : SlideBonfire.class.getDeclaredMethods()) {
@@ -90,8 +83,8 @@ public final class LanguageTest {
         }
     }
 
-    private static void words() throws IOException {
-        String source = read("bonfire.source").replaceAll("(?s)/\\*.*?\\*/", "").replaceAll("//.*", "");
+    private static void words() {
+        String source = Project.read(Project.SOURCE).replaceAll("(?s)/\\*.*?\\*/", "").replaceAll("//.*", "");
         String[] strange = {"\\bimport\\b", "\\bpackage\\b", "\\btry\\b", "\\bcatch\\b", "\\bfinally\\b", "\\bassert\\b",
             "\\bsynchronized\\b", "->", "::", "\\bDouble\\b", "\\bFloat\\b", "\\bSystem\\b", "\\bThread\\b", "\\bRandom\\b",
             "\\bObject\\b", "Exact\\b", "\\bgetMessage\\b", "\\binstanceof\\b", "\\bMath\\b", "\"", "@"};
@@ -105,7 +98,7 @@ public final class LanguageTest {
         }
     }
 
-    public static void main(String[] args) throws IOException {
+    public static void main(String[] args) {
         face();
         sizes();
         staticFields(SlideBonfire.class);
